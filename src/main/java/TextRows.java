@@ -235,8 +235,9 @@ public final class TextRows {
         }
 
         void putZeros(int amount) {
-            for (int k = 0; k < amount; k++) {
-                put(0);
+            for (int k = 0; k < amount && size < cells.length; k++) {
+                cells[size] = 0;
+                size++;
             }
         }
 
@@ -257,7 +258,7 @@ public final class TextRows {
     /** The texts, one behind the other in one array. */
     private static final class Row {
         final byte[] cells = new byte[MOST_ROW_BYTES];
-        // Where each text begins and, at the count, where the next one will: never less than one.
+        // Where each text begins and, at the count, where the next one will; the first one is 0.
         final int[] starts = new int[MOST_TEXTS + 1];
         int count;
 
@@ -344,21 +345,17 @@ public final class TextRows {
             }
         }
 
-        int left() {
-            return limit - at;
-        }
-
-        /** Whether so many bytes are there; an amount below 0 is one above all longs. */
+        /** Whether so many bytes are there, or a fault; below 0 is an amount above all longs. */
         boolean holds(long amount) {
-            if (amount < 0 || amount > left()) {
-                fail(CUT);
+            if (fault == FINE && (amount < 0 || amount > limit - at)) {
+                fault = CUT;
             }
-            return !failed();
+            return fault == FINE;
         }
 
         int nextByte() {
             if (at < 0 || at >= limit || at >= cells.length) {
-                fault = fault == FINE ? CUT : fault;
+                fail(CUT);
                 return 0;
             }
             int cell = cells[at] & 255;
