@@ -7,17 +7,26 @@ public final class AgainstOracleTest {
     private static final Checks CHECKS = new Checks();
     // A fixed sequence: every run of this test is the same.
     private static long state = 20261115;
+    // An object that has written and read others before: nothing of them may be left.
+    private static TextRows used = new TextRows();
 
     public static void main(String[] args) {
         for (int round = 0; round < 400; round++) {
-            List<byte[]> texts = texts(round);
-            roundTrip(texts);
+            renewEach20th(round);
+            roundTrip(texts(round));
         }
         largest();
         for (int round = 0; round < 6000; round++) {
+            renewEach20th(round);
             broken(round);
         }
         CHECKS.finish();
+    }
+
+    private static void renewEach20th(int round) {
+        if (round % 20 == 0) {
+            used = new TextRows();
+        }
     }
 
     private static int below(int bound) {
@@ -72,7 +81,7 @@ public final class AgainstOracleTest {
     }
 
     private static void roundTrip(List<byte[]> texts) {
-        TextRows rows = new TextRows();
+        TextRows rows = used;
         fill(rows, texts);
         for (int form = 0; form < 4; form++) {
             byte[] want = Oracle.write(form, texts);
@@ -117,7 +126,8 @@ public final class AgainstOracleTest {
             cells = damaged(cells);
         }
         int n = below(4) == 0 ? below(texts.size() + 12) : texts.size();
-        TextRows rows = new TextRows();
+        TextRows rows = used;
+        rows.clear();
         Checks.addText(rows, Checks.ascii("before"));
         Checks.hand(rows, cells);
         Oracle.Answer answer = Oracle.read(readAs, cells, n);

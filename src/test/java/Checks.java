@@ -2,19 +2,27 @@ import java.io.ByteArrayOutputStream;
 
 /** What the tests share: answers that are due, and ways to hand bytes to an object. */
 final class Checks {
+    private static final int MOST_TOLD = 40;
     private int wrong = 0;
     private int made = 0;
 
     void due(String call, long got, long want) {
         made++;
         if (got != want) {
-            wrong++;
-            System.out.println(call + " answered " + got + ", due is " + want);
+            tell(call + " answered " + got + ", due is " + want);
         }
     }
 
     void due(String call, boolean got, boolean want) {
         due(call, got ? 1 : 0, want ? 1 : 0);
+    }
+
+    /** One fault can spoil thousands of answers: the first ones are enough to find it. */
+    private void tell(String message) {
+        wrong++;
+        if (wrong <= MOST_TOLD) {
+            System.out.println(message);
+        }
     }
 
     void finish() {
@@ -93,8 +101,7 @@ final class Checks {
     void dueBytes(String call, byte[] got, byte[] want) {
         made++;
         if (!java.util.Arrays.equals(got, want)) {
-            wrong++;
-            System.out.println(call + " gave " + shown(got) + ", due is " + shown(want));
+            tell(call + " gave " + shown(got) + ", due is " + shown(want));
         }
     }
 
